@@ -12,6 +12,7 @@ public final class HistoryTest {
         keepAndRestore();
         theSnapshotStays();
         allOfTheStateComesBack();
+        whatIsOwedComesBack();
         Checks.end();
     }
 
@@ -150,6 +151,19 @@ public final class HistoryTest {
         x.pass(60);
         Checks.holds("13: all had changed", !same(kept, all(x)));
         Checks.holds("13: restore() brings all back", x.restore() >= 0 && same(kept, all(x)));
+    }
+
+    private static void whatIsOwedComesBack() {
+        SnailTrails x = new SnailTrails();
+        Checks.perform(x, "s2*0;s3*99;.4");
+        Checks.due("22: owes(0, 1)", x.owes(0, 1), 1);
+        x.pass(1);
+        Checks.due("22: owes(0, 1)", x.owes(0, 1), 2);
+        x.endsIn(0);
+        x.bestLane(99, 1);
+        Checks.due("22: owes(0, 1), it was only looked ahead", x.owes(0, 1), 2);
+        x.undo();
+        Checks.due("22: owes(0, 1)", x.owes(0, 1), 1);
     }
 
     private static boolean same(int[] one, int[] other) {

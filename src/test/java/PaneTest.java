@@ -151,6 +151,9 @@ public final class PaneTest {
         Checks.due("4: setFrost(0, 20, 10), UNKNOWN first", x.setFrost(0, 20, 10), UNKNOWN);
         Checks.due("4: setFrost(0, 19, 10)", x.setFrost(0, 19, 10), BAD_VALUE);
         Checks.due("4: count(5), nothing changed", x.count(5), 488);
+        Checks.due("11: undo() of setFrost()", x.undo(), 2);
+        Checks.due("11: cell(5, 19, 0)", x.cell(5, 19, 0), 4);
+        Checks.due("11: cell(0, 0, 0)", x.cell(0, 0, 0), 9);
     }
 
     private static void setFrostTakesTheTrail() {

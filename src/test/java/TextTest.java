@@ -75,7 +75,7 @@ public final class TextTest {
         for (String text : atThree) {
             fault(text, 3);
         }
-        String[] atFour = {"s0*00", "s0*01", "s0*5x", "s0*5s0*5", "f0.00=1", "f0.01=1", "f0.20=1", "f0.30=1", "f0.99=1", "f0.2;",
+        String[] atFour = {"s0*00", "s0*01", "s0*5x", "s0*5s0*5", "f0.00=1", "f0.01=1", "f0.20=1", "f0.21=1", "f0.30=1", "f0.99=1", "f0.2;",
             "f0.2*1", ".1;.0"};
         for (String text : atFour) {
             fault(text, 4);

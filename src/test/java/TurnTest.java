@@ -19,6 +19,7 @@ public final class TurnTest {
         restsWithoutAStep();
         snailsGoByTheirNumbers();
         trailsDry();
+        trailsOfTheFirstCell();
         trailsOfNoAge();
         aTrailInPlaceOfAnother();
         frostGrows();
@@ -185,6 +186,20 @@ public final class TurnTest {
         x.pass(1);
         Checks.due("6: cell(2, 0, 0) frost grew at the turn 8", x.cell(2, 0, 0), 5);
         Checks.due("6: cell(3, 0, 0)", x.cell(3, 0, 0), 6);
+    }
+
+    private static void trailsOfTheFirstCell() {
+        SnailTrails x = new SnailTrails();
+        x.setSnail(0, 99);
+        x.setSnail(5, 99);
+        x.pass(1);
+        Checks.due("6: cell(0, 0, 2)", x.cell(0, 0, 2), 1);
+        Checks.due("6: cell(1, 0, 2) no trail grows old", x.cell(1, 0, 2), NONE);
+        Checks.due("24: count(4)", x.count(4), 2);
+        Checks.due("18: reason(1, 0, 0)", x.reason(1, 0, 0), 0);
+        x.pass(6);
+        Checks.due("6: cell(0, 0, 1) it dried", x.cell(0, 0, 1), NONE);
+        Checks.due("6: cell(0, 1, 1)", x.cell(0, 1, 1), 0);
     }
 
     private static void trailsOfNoAge() {
