@@ -1,9 +1,32 @@
+import java.util.function.Consumer;
+
 /** Compares answers with what is due, and ends a test program with the exit code that tells. */
 final class Checks {
     private static int right = 0;
     private static int wrong = 0;
+    private static int sentences = 0;
+    private static int checkedBefore = 0;
+    private static String named = "";
 
     private Checks() {
+    }
+
+    /**
+     * Names the words of the document that the checks from here on are about: those of a promise, or of
+     * the Terms for the promise 0. SentencesTest looks whether the document says so.
+     */
+    static void sentence(int promise, String words) {
+        holdsSome();
+        named = (promise == 0 ? "Terms" : "Promise " + promise) + ", \"" + words + "\": ";
+        checkedBefore = right + wrong;
+        sentences++;
+    }
+
+    /** A sentence that is named, but not checked, has no test. */
+    private static void holdsSome() {
+        if (sentences > 0 && right + wrong == checkedBefore) {
+            holds("something is checked", false);
+        }
     }
 
     static void due(String call, long got, long want) {
@@ -11,7 +34,7 @@ final class Checks {
             right++;
         } else {
             wrong++;
-            System.out.println(call + " answered " + got + ", due is " + want);
+            System.out.println(named + call + " answered " + got + ", due is " + want);
         }
     }
 
@@ -20,8 +43,14 @@ final class Checks {
             right++;
         } else {
             wrong++;
-            System.out.println("does not hold: " + what);
+            System.out.println(named + "does not hold: " + what);
         }
+    }
+
+    /** After the two runs of calls, on a new object each, all that can be told is the same. */
+    static void alike(String what, Consumer<SnailTrails> run, Consumer<SnailTrails> other) {
+        String difference = Told.difference(run, other);
+        holds(what + difference, difference.isEmpty());
     }
 
     /** Types the text in place of the one that was. */
@@ -42,7 +71,9 @@ final class Checks {
     }
 
     static void end() {
-        System.out.println(right + " answers as due, " + wrong + " not");
+        holdsSome();
+        String of = sentences == 0 ? "" : " of " + sentences + " sentences";
+        System.out.println(right + " answers" + of + " as due, " + wrong + " not");
         if (wrong != 0 || right == 0) {
             System.exit(1);
         }
