@@ -53,6 +53,12 @@ final class Checks {
         holds(what + difference, difference.isEmpty());
     }
 
+    /** After the two runs the states are the same, the texts, histories and stops perhaps not. */
+    static void sameState(String what, Consumer<SnailTrails> run, Consumer<SnailTrails> other) {
+        String difference = Told.differenceOfStates(run, other);
+        holds(what + difference, difference.isEmpty());
+    }
+
     /** Types the text in place of the one that was. */
     static void write(SnailTrails x, String text) {
         x.clearText();

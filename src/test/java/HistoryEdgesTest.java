@@ -22,6 +22,7 @@ public final class HistoryEdgesTest {
         noSnapshot();
         theSnapshotInPlaceOfTheOneThatWas();
         everythingBut();
+        allThatComesBack();
         Checks.end();
     }
 
@@ -211,5 +212,26 @@ public final class HistoryEdgesTest {
         Checks.due("stopped(0) after restore()", x.stopped(0), 1);
         Checks.due("perform() after restore()", x.perform(), 1);
         Checks.due("count(0)", x.count(0), 8);
+    }
+
+    /** In the turns that pass, all that is told of the snail 0 changes, and its trail in the first cell dries. */
+    private static void allThatComesBack() {
+        Checks.sentence(0, "A state is everything but the text, the history, the snapshot and the latest stop.");
+        Consumer<SnailTrails> race = x -> Checks.perform(x, "s0*4;s1*20;s2*50;s3*99;.7");
+        Consumer<SnailTrails> later = race.andThen(x -> x.pass(99));
+        SnailTrails before = new SnailTrails();
+        SnailTrails after = new SnailTrails();
+        race.accept(before);
+        later.accept(after);
+        for (int what = 0; what < 10; what++) {
+            Checks.holds("snail(0, " + what + ") changes", before.snail(0, what) != after.snail(0, what));
+        }
+        Checks.holds("owes(0, 1) changes", before.owes(0, 1) != after.owes(0, 1));
+        Checks.holds("cell(0, 0, 1) changes", before.cell(0, 0, 1) != after.cell(0, 0, 1));
+        Checks.alike("undo() brings all back", race, later.andThen(SnailTrails::undo));
+        Checks.sameState("restore() brings all back", race, race.andThen(SnailTrails::keep).andThen(x -> x.pass(99)).andThen(SnailTrails::restore));
+        Checks.sameState("undo() of restore() brings all back", later,
+            race.andThen(SnailTrails::keep).andThen(x -> x.pass(99)).andThen(SnailTrails::restore).andThen(SnailTrails::undo));
+        Checks.sameState("perform() that is stopped brings all back", race, race.andThen(x -> Checks.perform(x, ".99;s0*1;s0*1")));
     }
 }

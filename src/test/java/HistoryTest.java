@@ -1,3 +1,5 @@
+import java.util.function.Consumer;
+
 /** Promises 11 to 13: undo, the snapshot, and what is an act. */
 public final class HistoryTest {
     private static final int NONE = SnailTrails.NONE;
@@ -115,42 +117,21 @@ public final class HistoryTest {
         Checks.due("13: count(14), no part of the state", x.count(14), 3);
     }
 
-    private static int[] all(SnailTrails x) {
-        int[] told = new int[8 * 10 + 64 + 120 * 4 + 13];
-        int at = 0;
-        for (int snail = 0; snail < 8; snail++) {
-            for (int what = 0; what < 10; what++) {
-                told[at++] = x.snail(snail, what);
-            }
-            for (int other = 0; other < 8; other++) {
-                told[at++] = x.owes(snail, other);
-            }
-        }
-        for (int cell = 0; cell < 480; cell++) {
-            told[at++] = x.cell(cell / 4 % 6, cell / 24, cell % 4);
-        }
-        for (int what = 0; what < 13; what++) {
-            told[at++] = x.count(what);
-        }
-        return told;
-    }
-
     private static void allOfTheStateComesBack() {
-        SnailTrails x = new SnailTrails();
-        Checks.perform(x, "s2*99;.1;s2*20;.1;s2*8;s3*60;.9;f0.7=1");
-        x.keep();
-        int[] kept = all(x);
-        x.takeOff(3);
-        Checks.holds("11: undo() brings all back", x.undo() >= 0 && same(kept, all(x)));
-        x.pass(99);
-        Checks.holds("11: undo() brings all back", x.undo() >= 0 && same(kept, all(x)));
-        x.set(0, 0);
-        x.set(1, 1);
-        x.set(2, 1);
-        x.set(3, 1);
-        x.pass(60);
-        Checks.holds("13: all had changed", !same(kept, all(x)));
-        Checks.holds("13: restore() brings all back", x.restore() >= 0 && same(kept, all(x)));
+        Consumer<SnailTrails> race = x -> {
+            Checks.perform(x, "s2*99;.1;s2*20;.1;s2*8;s3*60;.9;f0.7=1");
+            x.keep();
+        };
+        Checks.alike("11: undo() brings all back", race, race.andThen(x -> x.takeOff(3)).andThen(SnailTrails::undo));
+        Checks.alike("11: undo() brings all back", race, race.andThen(x -> x.pass(99)).andThen(SnailTrails::undo));
+        Consumer<SnailTrails> later = race.andThen(x -> {
+            x.set(0, 0);
+            x.set(1, 1);
+            x.set(2, 1);
+            x.set(3, 1);
+            x.pass(60);
+        });
+        Checks.sameState("13: restore() brings all back", race, later.andThen(SnailTrails::restore));
     }
 
     private static void whatIsOwedComesBack() {
@@ -164,9 +145,5 @@ public final class HistoryTest {
         Checks.due("22: owes(0, 1), it was only looked ahead", x.owes(0, 1), 2);
         x.undo();
         Checks.due("22: owes(0, 1)", x.owes(0, 1), 1);
-    }
-
-    private static boolean same(int[] one, int[] other) {
-        return java.util.Arrays.equals(one, other);
     }
 }

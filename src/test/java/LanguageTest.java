@@ -159,7 +159,7 @@ public final class LanguageTest {
 
     private static int someCalls(SnailTrails x) {
         int calls = 0;
-        for (int round = 0; round < 20; round++) {
+        for (int round = 0; round < 14; round++) {
             x.setSnail(round % 6, 50);
             x.pass(1 + round % 5);
             x.setFrost(round % 6, round % 20, round % 10);

@@ -1,15 +1,20 @@
 import java.util.Random;
 
-/** Runs of 512 calls, the same each time, on SnailTrails and on PlainRace: all answers are alike. */
+/** Runs of some 500 calls, the same each time, on SnailTrails and on PlainRace: all answers are alike. */
 public final class RandomTest {
-    private static final int RUNS = 400;
-    private static final int CALLS = 512;
+    private static final int RUNS = 1000;
+    /** An object is good for 512 calls; a race can take 62 of them, and the last questions 181. */
+    private static final int CALLS = 512 - 62 - 181;
+    /** The last questions are so many that each run asks one of so many. */
+    private static final int LOTS = 5;
     private static final String SIGNS = "sf.*=;0123456789";
 
     private final SnailTrails x = new SnailTrails();
     private final PlainRace plain = new PlainRace();
     private final Random random;
     private final int run;
+    private int calls = 0;
+    private int questions = 0;
 
     private RandomTest(int run) {
         this.run = run;
@@ -24,14 +29,15 @@ public final class RandomTest {
     }
 
     private void go() {
-        for (int call = 0; call < CALLS && Checks.wrong() == 0; call++) {
+        while (calls < CALLS && Checks.wrong() == 0) {
             if (random.nextInt(3) == 0) {
                 act();
             } else {
                 ask();
             }
         }
-        askAll();
+        askALotOfAll();
+        Checks.holds("run " + run + " has 512 calls at most, not " + calls, calls <= 512);
     }
 
     /** Mostly from the range; now and then beside it. */
@@ -44,6 +50,7 @@ public final class RandomTest {
     }
 
     private void due(String call, int got, int want) {
+        calls++;
         Checks.due("run " + run + ": " + call, got, want);
     }
 
@@ -173,29 +180,45 @@ public final class RandomTest {
         due("count(" + what + ")", x.count(what), plain.count(what));
     }
 
-    private void askAll() {
-        for (int snail = 0; snail < 8; snail++) {
-            for (int what = 0; what < 10; what++) {
-                snail(snail, what);
-            }
-            for (int other = 0; other < 8; other++) {
-                due("owes(" + snail + ", " + other + ")", x.owes(snail, other), plain.owes(snail, other));
-            }
-            for (int step = 0; step < 3; step++) {
-                cost(snail, step);
+    private boolean isOfThisLot() {
+        questions++;
+        return questions % LOTS == run % LOTS;
+    }
+
+    private void askALotOfAll() {
+        for (int number = 0; number < 8 * 21; number++) {
+            if (isOfThisLot()) {
+                askOfSnail(number / 21, number % 21);
             }
         }
-        for (int lane = 0; lane < 6; lane++) {
-            for (int row = 0; row < 20; row++) {
-                for (int what = 0; what < 4; what++) {
-                    cell(lane, row, what);
-                }
-                wayUp(lane, row, 0);
-                wayUp(lane, row, 1);
+        for (int number = 0; number < 120 * 6; number++) {
+            if (isOfThisLot()) {
+                askOfCell(number / 6 % 6, number / 36, number % 6);
             }
         }
         for (int what = 0; what < 15; what++) {
-            count(what);
+            if (isOfThisLot()) {
+                count(what);
+            }
+        }
+    }
+
+    private void askOfSnail(int snail, int question) {
+        if (question < 10) {
+            snail(snail, question);
+        } else if (question < 18) {
+            int other = question - 10;
+            due("owes(" + snail + ", " + other + ")", x.owes(snail, other), plain.owes(snail, other));
+        } else {
+            cost(snail, question - 18);
+        }
+    }
+
+    private void askOfCell(int lane, int row, int question) {
+        if (question < 4) {
+            cell(lane, row, question);
+        } else {
+            wayUp(lane, row, question - 4);
         }
     }
 }

@@ -227,9 +227,8 @@ public final class ReturnsOfActsTest {
 
     private static void perform() {
         Checks.sentence(9, "how many things the race has");
-        SnailTrails x = new SnailTrails();
         for (int things = 1; things <= 20; things++) {
-            Checks.due("perform()", Checks.perform(x, ".1;".repeat(things - 1) + ".1"), things);
+            Checks.due("perform()", Checks.perform(new SnailTrails(), ".1;".repeat(things - 1) + ".1"), things);
         }
         Checks.sentence(9, "-100 minus the fault of the text if it has one (which is an error)");
         for (int fault = 0; fault < 60; fault++) {
@@ -240,7 +239,7 @@ public final class ReturnsOfActsTest {
             Checks.due("count(0), nothing was done", y.count(0), 0);
             Checks.due("count(13), nothing is recorded", y.count(13), 0);
         }
-        Checks.due("perform() of a fault at 60", Checks.perform(x, ".1;".repeat(20)), -160);
+        Checks.due("perform() of a fault at 60", Checks.perform(new SnailTrails(), ".1;".repeat(20)), -160);
         Checks.sentence(9, "NOT_POSSIBLE if any is stopped");
         Checks.due("perform(), the first", Checks.perform(new SnailTrails(), "s1*1;s1*1;.1"), NOT_POSSIBLE);
         Checks.due("perform(), the last", Checks.perform(new SnailTrails(), ".1;s1*1;s1*1"), NOT_POSSIBLE);

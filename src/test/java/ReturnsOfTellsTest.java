@@ -20,6 +20,7 @@ public final class ReturnsOfTellsTest {
         reason();
         endsIn();
         endsInWithin300();
+        beyondTheLastTurn();
         wayUp();
         wayUpOfTheRim();
         leader();
@@ -244,6 +245,11 @@ public final class ReturnsOfTellsTest {
         x.set(1, 1);
         x.pass(1);
         Checks.due("reason(1, 2, 3), not just now", x.reason(1, 2, 3), 0);
+        x.takeOff(1);
+        Checks.due("reason(1, 2, 3), the snail was taken off", x.reason(1, 2, 3), 0);
+        x.pass(99);
+        Checks.due("reason(0, 2, 18), the snail has ended", x.reason(0, 2, 18), 2);
+        Checks.due("reason(1, 2, 18), the snail was taken off", x.reason(1, 2, 18), 0);
         Checks.sentence(18, "UNKNOWN (snail or cell)");
         Checks.due("reason(2, 0, 0)", x.reason(2, 0, 0), UNKNOWN);
         Checks.due("reason(-1, 0, 0)", x.reason(-1, 0, 0), UNKNOWN);
@@ -309,28 +315,45 @@ public final class ReturnsOfTellsTest {
         Checks.due("endsIn(6)", x.endsIn(6), 0);
     }
 
+    /** 19 steps of 10 with slime 99 want 19 rests of 5. Only pass() is bound to the last turn. */
+    private static void beyondTheLastTurn() {
+        Checks.sentence(19, "Tells in how many turns a snail ends, if nothing else is done.");
+        SnailTrails x = Panes.atTurn(99999);
+        x.setSnail(3, 99);
+        Checks.due("endsIn(0) at the turn 99999", x.endsIn(0), 38);
+        x.takeOff(0);
+        Checks.sentence(23, "would end first, if nothing else was done");
+        Checks.due("bestLane(99, 0) at the turn 99999", x.bestLane(99, 0), 0);
+        Checks.due("bestLane(99, 1) at the turn 99999", x.bestLane(99, 1), 38);
+    }
+
+    private static void bothWays(SnailTrails x, int lane, int row, int due) {
+        Checks.due("wayUp(" + lane + ", " + row + ", 0)", x.wayUp(lane, row, 0), due);
+        Checks.due("wayUp(" + lane + ", " + row + ", 1)", x.wayUp(lane, row, 1), due);
+    }
+
     private static void wayUp() {
         Checks.sentence(20, "the sum, 0 in the row 19");
-        for (int way = 0; way < 2; way++) {
-            SnailTrails x = new SnailTrails();
-            for (int row = 19; row >= 0; row--) {
-                Checks.due("wayUp(0, " + row + ", " + way + ")", x.wayUp(0, row, way), 5 * (19 - row));
-                Checks.due("wayUp(5, " + row + ", " + way + ")", x.wayUp(5, row, way), 5 * (19 - row));
-            }
-            SnailTrails y = new SnailTrails();
-            y.set(3, 1);
-            y.pass(5);
-            Checks.due("wayUp(3, 0, " + way + "), all frost is 9", y.wayUp(3, 0, way), 190);
-            y.setFrost(0, 19, 0);
-            Checks.due("wayUp(0, 18, " + way + "), straight", y.wayUp(0, 18, way), 1);
-            Checks.due("wayUp(1, 18, " + way + "), to the left", y.wayUp(1, 18, way), 1);
-            Checks.due("wayUp(2, 18, " + way + "), two lanes aside", y.wayUp(2, 18, way), 10);
-            Checks.due("wayUp(5, 18, " + way + "), not round the edge", y.wayUp(5, 18, way), 10);
-            Checks.due("wayUp(5, 14, " + way + "), five steps to the left", y.wayUp(5, 14, way), 41);
-            Checks.due("wayUp(5, 15, " + way + "), one step too few", y.wayUp(5, 15, way), 40);
-            y.setFrost(5, 19, 1);
-            Checks.due("wayUp(4, 18, " + way + "), to the right", y.wayUp(4, 18, way), 2);
+        SnailTrails x = new SnailTrails();
+        for (int row = 19; row >= 0; row--) {
+            bothWays(x, 0, row, 5 * (19 - row));
+            bothWays(x, 5, row, 5 * (19 - row));
         }
+        SnailTrails y = new SnailTrails();
+        y.set(3, 1);
+        y.pass(5);
+        bothWays(y, 3, 0, 190);
+        y.setFrost(0, 19, 0);
+        bothWays(y, 0, 18, 1);
+        bothWays(y, 1, 18, 1);
+        bothWays(y, 2, 18, 10);
+        bothWays(y, 5, 18, 10);
+        bothWays(y, 5, 14, 41);
+        bothWays(y, 5, 15, 40);
+        y.setFrost(5, 19, 1);
+        bothWays(y, 4, 18, 2);
+        bothWays(y, 5, 18, 2);
+        bothWays(y, 3, 18, 10);
         Checks.sentence(20, "UNKNOWN");
         Checks.due("wayUp(6, 0, 0)", new SnailTrails().wayUp(6, 0, 0), UNKNOWN);
         Checks.due("wayUp(0, -1, 1)", new SnailTrails().wayUp(0, -1, 1), UNKNOWN);
@@ -341,26 +364,22 @@ public final class ReturnsOfTellsTest {
 
     private static void wayUpOfTheRim() {
         Checks.sentence(20, "where the way begins (its own cell costs nothing)");
-        for (int way = 0; way < 2; way++) {
-            SnailTrails x = new SnailTrails();
-            for (int lane = 0; lane < 6; lane++) {
-                x.setFrost(lane, 19, 9);
-                x.setFrost(lane, 18, 9);
-                Checks.due("wayUp(" + lane + ", 19, " + way + ")", x.wayUp(lane, 19, way), 0);
-            }
-            Checks.due("wayUp(3, 18, " + way + ")", x.wayUp(3, 18, way), 10);
-            Checks.due("wayUp(3, 17, " + way + ")", x.wayUp(3, 17, way), 20);
-        }
-        Checks.sentence(20, "without trails and snails");
         SnailTrails x = new SnailTrails();
-        x.setSnail(1, 99);
-        x.setSnail(2, 99);
-        x.setSnail(3, 99);
-        x.pass(3);
-        for (int way = 0; way < 2; way++) {
-            Checks.due("wayUp(2, 0, " + way + "), trails above it", x.wayUp(2, 0, way), 95);
-            Checks.due("wayUp(2, 2, " + way + "), snails above it", x.wayUp(2, 2, way), 85);
+        for (int lane = 0; lane < 6; lane++) {
+            x.setFrost(lane, 19, 9);
+            x.setFrost(lane, 18, 9);
+            bothWays(x, lane, 19, 0);
         }
+        bothWays(x, 3, 18, 10);
+        bothWays(x, 3, 17, 20);
+        Checks.sentence(20, "without trails and snails");
+        SnailTrails y = new SnailTrails();
+        y.setSnail(1, 99);
+        y.setSnail(2, 99);
+        y.setSnail(3, 99);
+        y.pass(3);
+        bothWays(y, 2, 0, 95);
+        bothWays(y, 2, 2, 85);
     }
 
     private static void leader() {

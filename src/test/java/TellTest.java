@@ -259,25 +259,28 @@ public final class TellTest {
     }
 
     /** The least sum by trying all ways: a second telling for panes that are no plain ones. */
-    private static int leastByTrying(SnailTrails x, int lane, int row) {
+    private static int leastByTrying(int[][] frosts, int lane, int row) {
         if (row == 19) {
             return 0;
         }
         int least = Integer.MAX_VALUE;
         for (int to = Math.max(lane - 1, 0); to <= Math.min(lane + 1, 5); to++) {
-            least = Math.min(least, 1 + x.cell(to, row + 1, 0) + leastByTrying(x, to, row + 1));
+            least = Math.min(least, 1 + frosts[to][row + 1] + leastByTrying(frosts, to, row + 1));
         }
         return least;
     }
 
     private static void wayUpOverAPane() {
         SnailTrails x = new SnailTrails();
+        int[][] frosts = new int[6][20];
         for (int place = 0; place < 54; place++) {
-            x.setFrost(place % 6, 11 + place / 6, (place * place * 7 + place * 3 + place / 5) % 10);
+            int frost = (place * place * 7 + place * 3 + place / 5) % 10;
+            frosts[place % 6][11 + place / 6] = frost;
+            x.setFrost(place % 6, 11 + place / 6, frost);
         }
         for (int row = 10; row < 20; row++) {
             for (int lane = 0; lane < 6; lane++) {
-                bothWays(x, lane, row, leastByTrying(x, lane, row));
+                bothWays(x, lane, row, leastByTrying(frosts, lane, row));
             }
         }
     }

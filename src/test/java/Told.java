@@ -9,6 +9,8 @@ import java.util.function.ToIntFunction;
  */
 final class Told {
     private static final int MOST_ASKED = 340;
+    /** So many of the first questions are about no part of a state. */
+    private static final int NO_STATE = 4;
 
     private record Question(String call, ToIntFunction<SnailTrails> answer) {
     }
@@ -30,20 +32,31 @@ final class Told {
     /** Says what tells the two runs apart first; empty if nothing does. */
     static String difference(Consumer<SnailTrails> run, Consumer<SnailTrails> other) {
         for (Ending ending : ENDINGS) {
-            int[] answers = after(run.andThen(ending.calls));
-            int[] others = after(other.andThen(ending.calls));
-            for (int index = 0; index < answers.length; index++) {
-                if (answers[index] != others[index]) {
-                    return ": " + ending.name + QUESTIONS.get(index).call + " answers " + answers[index] + " and "
-                        + others[index];
-                }
+            String difference = firstDifference(after(run.andThen(ending.calls)), after(other.andThen(ending.calls)), 0);
+            if (!difference.isEmpty()) {
+                return ": " + ending.name + difference;
+            }
+        }
+        return "";
+    }
+
+    /** As difference(), but of the states alone, which the text, the history and the latest stop are no part of. */
+    static String differenceOfStates(Consumer<SnailTrails> run, Consumer<SnailTrails> other) {
+        String difference = firstDifference(after(run), after(other), NO_STATE);
+        return difference.isEmpty() ? "" : ": " + difference;
+    }
+
+    private static String firstDifference(int[] answers, int[] others, int from) {
+        for (int index = from; index < answers.length; index++) {
+            if (answers[index] != others[index]) {
+                return QUESTIONS.get(index).call + " answers " + answers[index] + " and " + others[index];
             }
         }
         return "";
     }
 
     /** The answers of all questions, always in the same order. */
-    static int[] after(Consumer<SnailTrails> run) {
+    private static int[] after(Consumer<SnailTrails> run) {
         int[] answers = new int[QUESTIONS.size()];
         SnailTrails x = null;
         for (int index = 0; index < answers.length; index++) {
@@ -64,12 +77,14 @@ final class Told {
 
     private static List<Question> questions() {
         List<Question> all = new ArrayList<>();
-        for (int number = 0; number < 15; number++) {
+        all.add(new Question("count(13)", x -> x.count(13)));
+        all.add(new Question("count(14)", x -> x.count(14)));
+        all.add(new Question("stopped(0)", x -> x.stopped(0)));
+        all.add(new Question("stopped(1)", x -> x.stopped(1)));
+        for (int number = 0; number < 13; number++) {
             int what = number;
             all.add(new Question("count(" + what + ")", x -> x.count(what)));
         }
-        all.add(new Question("stopped(0)", x -> x.stopped(0)));
-        all.add(new Question("stopped(1)", x -> x.stopped(1)));
         all.add(new Question("leader()", SnailTrails::leader));
         all.add(new Question("bestLane(50, 0)", x -> x.bestLane(50, 0)));
         for (int number = 0; number < 8; number++) {

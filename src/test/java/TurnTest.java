@@ -4,8 +4,6 @@ public final class TurnTest {
     private static final int FULL = SnailTrails.FULL;
     private static final int NOT_POSSIBLE = SnailTrails.NOT_POSSIBLE;
     private static final int NONE = SnailTrails.NONE;
-    /** Fifteen things, as many turns as one text can tell: 1485. */
-    private static final String LONGEST = ".99;.99;.99;.99;.99;.99;.99;.99;.99;.99;.99;.99;.99;.99;.99";
 
     private TurnTest() {
     }
@@ -45,15 +43,8 @@ public final class TurnTest {
     }
 
     private static void passUpToTheLastTurn() {
-        SnailTrails x = new SnailTrails();
-        Checks.due("6: perform() of turns alone", Checks.perform(x, LONGEST), 15);
-        for (int times = 1; times < 67; times++) {
-            x.perform();
-        }
-        Checks.due("6: count(0)", x.count(0), 99495);
-        for (int times = 0; times < 5; times++) {
-            x.pass(99);
-        }
+        SnailTrails x = Panes.atTurn(99990);
+        Checks.due("6: count(0)", x.count(0), 99990);
         Checks.due("6: pass(10), beyond", x.pass(10), FULL);
         Checks.due("6: pass(100), BAD_VALUE first", x.pass(100), BAD_VALUE);
         Checks.due("6: pass(8)", x.pass(8), 0);
