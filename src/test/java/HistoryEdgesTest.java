@@ -28,11 +28,20 @@ public final class HistoryEdgesTest {
 
     private static void theConstants() {
         Checks.sentence(0, "Errors are reported by the constants below.");
-        Checks.due("UNKNOWN", SnailTrails.UNKNOWN, -1);
-        Checks.due("BAD_VALUE", SnailTrails.BAD_VALUE, -2);
-        Checks.due("FULL", SnailTrails.FULL, -3);
-        Checks.due("NOT_POSSIBLE", SnailTrails.NOT_POSSIBLE, -4);
-        Checks.due("NONE", SnailTrails.NONE, -5);
+        constant("UNKNOWN", -1);
+        constant("BAD_VALUE", -2);
+        constant("FULL", -3);
+        constant("NOT_POSSIBLE", -4);
+        constant("NONE", -5);
+    }
+
+    /** A constant that is named in a test is put there by its number as the test is compiled. */
+    private static void constant(String name, int due) {
+        try {
+            Checks.due(name, SnailTrails.class.getField(name).getInt(null), due);
+        } catch (ReflectiveOperationException missing) {
+            Checks.holds("there is a constant " + name, false);
+        }
     }
 
     /** Acts that answer neither an error nor NONE after setUp(), each told by its call. */
@@ -191,6 +200,12 @@ public final class HistoryEdgesTest {
                 race.accept(x);
                 x.keep();
             });
+        SnailTrails x = new SnailTrails();
+        race.andThen(SnailTrails::keep).andThen(SnailTrails::undo).accept(x);
+        Checks.due("count(0), keep() is undone by no undo()", x.count(0), 0);
+        Checks.due("restore()", x.restore(), 3);
+        Checks.due("count(0), as it was at keep()", x.count(0), 3);
+        Checks.due("snail(0, 1), as it was at keep()", x.snail(0, 1), 3);
     }
 
     private static void everythingBut() {
@@ -212,6 +227,10 @@ public final class HistoryEdgesTest {
         Checks.due("stopped(0) after restore()", x.stopped(0), 1);
         Checks.due("perform() after restore()", x.perform(), 1);
         Checks.due("count(0)", x.count(0), 8);
+        Checks.due("restore()", x.restore(), 1);
+        Checks.due("count(13), the history is no part of what comes back", x.count(13), 3);
+        Checks.due("undo()", x.undo(), 2);
+        Checks.due("count(0), of the state before restore()", x.count(0), 8);
     }
 
     /** In the turns that pass, all that is told of the snail 0 changes, and its trail in the first cell dries. */

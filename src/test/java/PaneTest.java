@@ -125,8 +125,10 @@ public final class PaneTest {
         x.pass(1);
         Checks.due("3: snail(0, 1) it creeps no more", x.snail(0, 1), 3);
         Checks.due("3: undo()", x.undo(), 3);
+        Checks.due("3: snail(0, 3) after undo() of pass(1)", x.snail(0, 3), 2);
         Checks.due("3: undo()", x.undo(), 2);
         Checks.due("3: snail(0, 3) after undo()", x.snail(0, 3), 0);
+        Checks.due("3: snail(0, 1) after undo()", x.snail(0, 1), 3);
         x.pass(90);
         Checks.due("3: snail(0, 3) it has ended", x.snail(0, 3), 1);
         Checks.due("3: takeOff(0) it has ended", x.takeOff(0), NOT_POSSIBLE);

@@ -250,6 +250,12 @@ public final class ReturnsOfTellsTest {
         x.pass(99);
         Checks.due("reason(0, 2, 18), the snail has ended", x.reason(0, 2, 18), 2);
         Checks.due("reason(1, 2, 18), the snail was taken off", x.reason(1, 2, 18), 0);
+        SnailTrails y = Panes.followed(2);
+        y.pass(4);
+        Checks.due("snail(1, 6)", y.snail(1, 6), 3);
+        Checks.due("reason(1, 2, 5), three in all, but one just now", y.reason(1, 2, 5), 0);
+        y.pass(1);
+        Checks.due("reason(1, 2, 6), two just now", y.reason(1, 2, 6), 3);
         Checks.sentence(18, "UNKNOWN (snail or cell)");
         Checks.due("reason(2, 0, 0)", x.reason(2, 0, 0), UNKNOWN);
         Checks.due("reason(-1, 0, 0)", x.reason(-1, 0, 0), UNKNOWN);

@@ -10,7 +10,8 @@ import java.util.regex.Pattern;
 
 /**
  * Holds the words that the tests name against the document: they stand there, and there is a test that
- * names each part of each Returns line, and each argument.
+ * names each part of each Returns line, and each argument. And holds SENTENCES.md against the document, the
+ * program and the tests: no piece is left out, and the parts and the tests that it tells of are there.
  */
 public final class SentencesTest {
     private static final Path DOCUMENT = Path.of("../shared/DOC.md");
@@ -27,10 +28,75 @@ public final class SentencesTest {
     }
 
     public static void main(String[] args) throws IOException {
-        if (!Files.exists(DOCUMENT)) {
+        List<Sentences.Piece> pieces = Sentences.all();
+        partsAreThere(pieces);
+        testsAreThere(pieces);
+        if (Files.exists(DOCUMENT)) {
+            piecesAreTheDocument(pieces);
+            wordsAreOfTheDocument();
+        } else {
             System.out.println("there is no " + DOCUMENT + " to hold the tests against");
+        }
+        Checks.end();
+    }
+
+    private static void partsAreThere(List<Sentences.Piece> pieces) throws IOException {
+        String source = Program.source();
+        if (!Program.isTheOneTold(source)) {
+            System.out.println("SENTENCES.md tells of the parts of another program");
             return;
         }
+        for (Sentences.Piece piece : pieces) {
+            Checks.holds("a part keeps: " + piece.words(), piece.parts().isEmpty() != piece.notKept().isEmpty());
+            for (String part : piece.parts()) {
+                Checks.holds("the program has the part " + part, Program.has(source, part));
+            }
+        }
+    }
+
+    private static void testsAreThere(List<Sentences.Piece> pieces) throws IOException {
+        for (Sentences.Piece piece : pieces) {
+            boolean isTested = !piece.tests().isEmpty() || piece.parts().isEmpty();
+            Checks.holds("a test is told for: " + piece.words(), isTested);
+            boolean isBroken = !piece.breaks().isEmpty() || !piece.notBroken().isEmpty() || piece.parts().isEmpty();
+            Checks.holds("a break is told for: " + piece.words(), isBroken);
+            for (String test : piece.tests()) {
+                Checks.holds("there is a test " + test + " that is run", isRun(test));
+            }
+        }
+    }
+
+    /** A test that its class does not call in its main method would never fail. */
+    private static boolean isRun(String test) throws IOException {
+        int dot = test.indexOf('.');
+        Path file = TESTS.resolve(test.substring(0, dot) + ".java");
+        String method = test.substring(dot + 1);
+        if (!Files.exists(file)) {
+            return false;
+        }
+        String source = Files.readString(file);
+        String main = source.substring(source.indexOf("void main("), source.indexOf("\n    }\n", source.indexOf("void main(")));
+        return main.contains(" " + method + "();") && source.contains(" void " + method + "() ");
+    }
+
+    /** Headings, among them the lines in capitals, are no pieces; the code is told in one word. */
+    private static void piecesAreTheDocument(List<Sentences.Piece> pieces) throws IOException {
+        String document = Files.readString(DOCUMENT).replaceAll("(?s)```java.*?```", "(the face)")
+            .replaceAll("(?m)^#.*$", "").replaceAll("(?m)^[A-Z ]+$", "").replaceAll("\\s+", " ").trim();
+        int at = 0;
+        for (Sentences.Piece piece : pieces) {
+            boolean isNext = document.startsWith(piece.words(), at);
+            Checks.holds("the document goes on with: " + piece.words() + ", and not: "
+                + document.substring(at, Math.min(at + 60, document.length())), isNext);
+            if (!isNext) {
+                return;
+            }
+            at = Math.min(at + piece.words().length() + 1, document.length());
+        }
+        Checks.due("characters of the document without a piece", document.length() - at, 0);
+    }
+
+    private static void wordsAreOfTheDocument() throws IOException {
         String document = Files.readString(DOCUMENT).replaceAll("\\s+", " ");
         List<Sentence> named = new ArrayList<>();
         for (Path test : tests()) {
@@ -44,7 +110,6 @@ public final class SentencesTest {
             returnsAreNamed(promise, section(document, promise), named);
             argumentsAreNamed(promise, section(document, promise), named);
         }
-        Checks.end();
     }
 
     private static List<Path> tests() throws IOException {

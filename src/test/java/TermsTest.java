@@ -356,16 +356,19 @@ public final class TermsTest {
         for (int frost = 0; frost <= 9; frost++) {
             SnailTrails x = new SnailTrails();
             x.set(2, 1);
-            for (int lane = 1; lane < 6; lane++) {
+            for (int lane = 0; lane < 6; lane++) {
                 x.setFrost(lane, 1, frost);
             }
             x.setSnail(2, 1 + frost);
             x.setSnail(4, frost);
+            x.setSnail(0, 40 + frost);
             x.pass(1);
             Checks.due("snail(0, 1), as much as the cost " + (1 + frost), x.snail(0, 1), 1);
             Checks.due("snail(0, 2), as much as the cost " + (1 + frost), x.snail(0, 2), 0);
             Checks.due("snail(1, 1), one less", x.snail(1, 1), 0);
             Checks.due("snail(1, 2), one less, and a rest", x.snail(1, 2), 1 + frost);
+            Checks.due("snail(2, 1), more than the cost", x.snail(2, 1), 1);
+            Checks.due("snail(2, 2), more than the cost", x.snail(2, 2), 39);
         }
     }
 
