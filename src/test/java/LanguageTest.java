@@ -45,6 +45,7 @@ public final class LanguageTest {
         if (Program.isTheOneTold(source)) {
             headings();
             methodsAreShort(source);
+            loopsCount(withoutComments(source));
             callsMakeNothing();
         }
         Checks.end();
@@ -163,6 +164,22 @@ public final class LanguageTest {
                 start = -1;
             }
         }
+    }
+
+    /** Each loop goes over an array, or counts up or down to a bound by steps of one. */
+    private static void loopsCount(String code) {
+        Checks.holds("no loop but for", !Pattern.compile("\\b(while|do)\\b").matcher(code).find());
+        Matcher loops = Pattern.compile("for \\((.*)\\) \\{").matcher(code);
+        int seen = 0;
+        while (loops.find()) {
+            String loop = loops.group(1);
+            boolean isOverAnArray = loop.matches("int \\w+ : \\w+");
+            boolean isCounted = loop.matches("int (\\w+) = [^;]*; \\1 (<|<=) [^;]*; \\1\\+\\+")
+                || loop.matches("int (\\w+) = [^;]*; \\1 (>|>=) [^;]*; \\1--");
+            Checks.holds("the end of a loop can be seen: " + loop, isOverAnArray || isCounted);
+            seen++;
+        }
+        Checks.due("loops", code.split("\\bfor \\(", -1).length - 1, seen);
     }
 
     /** All that a run needs is made with the object, so that many calls stay within the room. */
